@@ -90,7 +90,23 @@ public final class BoardTest {
         DUE.is("9 over two pieces", x.cut(Due.area(3, 3, 1, 2)), 2);
         x.piece(1, 0);
         DUE.is("9 cut ones that are out are no matter", x.cut(Due.area(3, 3, 1, 3)), 1);
+        cutAtTheCorners();
         DUE.is("9 the whole", Due.withBoard(8, 8).cut(4095 - 7 * 512 - 7 * 8), 64);
+    }
+
+    private static void cutAtTheCorners() {
+        CutBoard x = Due.withBoard(8, 8);
+        x.saw(0, Due.area(0, 0, 0, 0));
+        x.saw(0, Due.area(7, 7, 7, 7));
+        x.piece(1, 0);
+        x.piece(2, 0);
+        DUE.is("9 the first cell is out", x.cut(Due.area(0, 0, 0, 0)), CutBoard.STATE);
+        DUE.is("9 the last cell is out", x.cut(Due.area(7, 7, 7, 7)), CutBoard.STATE);
+        x.piece(1, 1);
+        x.piece(2, 1);
+        DUE.is("9 the last column", x.cut(Due.area(0, 7, 7, 7)), 8);
+        DUE.is("9 the first cell", x.cut(Due.area(0, 0, 0, 0)), 1);
+        DUE.is("9 the last row", x.cut(Due.area(7, 7, 0, 7)), 7);
     }
 
     private static void promise10() {
@@ -209,6 +225,16 @@ public final class BoardTest {
         snake.cut(Due.area(5, 5, 0, 6));
         expectIslands(snake, 1, 35, 35);
         DUE.is("13 both ends of the snake", snake.joined(Due.at(0, 0), Due.at(6, 0)), 1);
+        CutBoard up = Due.withBoard(2, 3);
+        up.cut(Due.area(0, 0, 1, 1));
+        expectIslands(up, 1, 5, 5);
+        CutBoard left = Due.withBoard(2, 2);
+        left.cut(Due.area(0, 0, 0, 0));
+        expectIslands(left, 1, 3, 3);
+        CutBoard bowl = Due.withBoard(4, 3);
+        bowl.cut(Due.area(0, 2, 1, 1));
+        expectIslands(bowl, 1, 9, 9);
+        DUE.is("13 both brims of the bowl", bowl.joined(Due.at(0, 0), Due.at(0, 2)), 1);
     }
 
     private static void promise14() {

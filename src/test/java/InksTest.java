@@ -98,12 +98,29 @@ public final class InksTest {
         }
         DUE.is("7 what 2", x.lots(2, 0), CutBoard.NONE);
         DUE.is("7 what -1", x.lots(-1, 0), CutBoard.NONE);
+        atFirst();
         theThrows(MIN, 333);
         theThrows(MAX, 500);
         theThrows(77, 999);
         theThrows(77, 1);
         theThrows(0, 49);
         theThrows(0, 48);
+    }
+
+    private static void atFirst() {
+        CutBoard x = Due.withSheets(1, 1, 1);
+        x.lots(1, 7663);
+        x.pull(0, 0);
+        DUE.is("7 slip is 0 at first, and a lot of 0 is not less", x.good(0), 1);
+        // The document doesn't say what z is at first; the program takes 0, whose first lot is 48.
+        CutBoard below = Due.withSheets(1, 1, 1);
+        below.lots(0, 48);
+        below.pull(0, 0);
+        DUE.is("7 z at first, slip 48", below.good(0), 1);
+        CutBoard above = Due.withSheets(1, 1, 1);
+        above.lots(0, 49);
+        above.pull(0, 0);
+        DUE.is("7 z at first, slip 49", above.good(0), 0);
     }
 
     /** Each pull throws once for each good sheet, by the document's own sum. */

@@ -164,7 +164,8 @@ public final class PicturesTest {
         DUE.is("28 by five", stair().why(1), 0);
         CutBoard deep = stair();
         deep.want(0, 6);
-        DUE.is("28 not by five", deep.why(1), 1 << 6);
+        deep.want(1, 3);
+        DUE.is("28 not by five, though others are", deep.why(1), 1 << 6);
         CutBoard apart = wanting(1, 2);
         for (int colour = 1; colour < 16; colour++) {
             apart.table(0, colour, 15);
