@@ -265,6 +265,10 @@ public final class PicturesEdgesTest {
         x.want(0, 15);
         x.table(4, 0, 8);
         x.wanted(1, 1);
+        DUE.is("why finds a row, but leaves the one of fewest", x.why(1023), 0);
+        x.want(0, 3);
+        DUE.is("and another", x.why(4), 0);
+        x.want(0, 0);
         DUE.is("it stays", x.order(0) * 10 + x.order(1), 49);
         DUE.is("and so do its places", x.place(0) * 100 + x.place(1) * 10 + x.place(2), 201);
         DUE.is("of all cells as they were then", x.place(15), 0);
@@ -447,7 +451,7 @@ public final class PicturesEdgesTest {
         CutBoard x = new CutBoard();
         for (int n = 0; n <= 20; n++) {
             for (int slip = 0; slip <= 999; slip++) {
-                for (int w : new int[] {1, 2, 10, 37, 99, 100}) {
+                for (int w = 1; w <= 100; w++) {
                     if (asked++ % 500 == 0) {
                         x = new CutBoard();
                     }
@@ -469,7 +473,10 @@ public final class PicturesEdgesTest {
     /** "NOT: above 100000" */
     private static void beginAbove100000() {
         CutBoard x = new CutBoard();
+        DUE.is("one below", x.begin(14, 400, 78), 99999);
         DUE.is("just 100000", x.begin(1, 999, 100), 100000);
+        // No n, s and w need 100001 to 100005: 100006 is the first that can be refused.
+        DUE.is("100006", x.begin(8, 612, 51), CutBoard.NOT);
         DUE.is("just 100000 by two", x.begin(2, 990, 10), 100000);
         DUE.is("just above it", x.begin(2, 990, 11), CutBoard.NOT);
         DUE.is("just 100000 by five", x.begin(5, 900, 1), 100000);
